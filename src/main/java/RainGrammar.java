@@ -84,7 +84,7 @@ public final class RainGrammar {
             case 4:
                 return told.stepOf(walker, scene.hour);
             case 5:
-                readNow();
+                readIn(scene);
                 return (reading.readers >> walker) & 1;
             default:
                 return OTHERS;
@@ -92,7 +92,7 @@ public final class RainGrammar {
     }
 
     public int read(int i) {
-        readNow();
+        readIn(scene);
         return i >= 0 && i < reading.length ? reading.shown[i] : NONE;
     }
 
@@ -196,7 +196,7 @@ public final class RainGrammar {
 
     public int least() {
         int gust = told.gustOf(scene.hour);
-        readNow();
+        readIn(scene);
         int readers = reading.readers;
         int best = NONE;
         int fewest = MOST_WALKERS + 1;
@@ -204,7 +204,7 @@ public final class RainGrammar {
             int size = Integer.bitCount(set);
             if ((set & ~readers) == 0 && size < fewest) {
                 reading.take(told, scene, set, gust);
-                if (isPlain()) {
+                if (isSaidInOneWay()) {
                     best = set;
                     fewest = size;
                 }
@@ -279,7 +279,7 @@ public final class RainGrammar {
     }
 
     public int colours() {
-        readNow();
+        readIn(scene);
         int bits = 0;
         for (int i = 0; i < reading.length; i++) {
             if (reading.shown[i] != STOP) {
@@ -431,10 +431,10 @@ public final class RainGrammar {
             case 5:
                 return told.gustOf(scene.hour);
             case 6:
-                readNow();
+                readIn(scene);
                 return reading.sentences;
             case 7:
-                readNow();
+                readIn(scene);
                 return reading.length;
             case 8:
                 return scene.open;
@@ -477,14 +477,13 @@ public final class RainGrammar {
         undoEnd = 0;
     }
 
-    private void readNow() {
-        reading.look(told, scene);
-        reading.take(told, scene, 0, told.gustOf(scene.hour));
+    private void readIn(Scene seen) {
+        reading.look(told, seen);
+        reading.take(told, seen, 0, told.gustOf(seen.hour));
     }
 
     private int saidIn(Scene seen) {
-        reading.look(told, seen);
-        reading.take(told, seen, 0, told.gustOf(seen.hour));
+        readIn(seen);
         return saidInReading();
     }
 
@@ -498,7 +497,7 @@ public final class RainGrammar {
     }
 
     private boolean parseNow(int sentence) {
-        readNow();
+        readIn(scene);
         if (sentence < 0 || sentence >= reading.sentences) {
             return false;
         }
@@ -506,7 +505,7 @@ public final class RainGrammar {
         return true;
     }
 
-    private boolean isPlain() {
+    private boolean isSaidInOneWay() {
         if (reading.sentences != 1) {
             return false;
         }
