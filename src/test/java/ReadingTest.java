@@ -164,6 +164,37 @@ public final class ReadingTest {
         CHECK.due("sorts", x.sorts(0, 0, 0), 1);
     }
 
+    /** Calls that look elsewhere leave nothing behind in what is read now. */
+    private static void elsewhere() {
+        RainGrammar x = on(w("a", "plain", "red", 3) + w("b", "plain", "blue", 4) + "reads not hour;");
+        x.most();
+        CHECK.due("read, behind most", x.count(7), 2);
+        x.most();
+        CHECK.due("sentences, behind most", x.count(6), 1);
+        x.most();
+        CHECK.due("colours, behind most", x.colours(), 3);
+        x.most();
+        CHECK.due("ways, behind most", x.ways(0), 1);
+        x.most();
+        CHECK.due("walker, behind most", x.walker(0, 5), 1);
+        x.most();
+        CHECK.due("read 1, behind most", x.read(1), 1);
+    }
+
+    /** As many parts as a tape can hold, and as many values waiting as can be. */
+    private static void longLaws() {
+        StringBuilder sum = new StringBuilder("reads 1");
+        for (int i = 0; i < 496; i++) {
+            sum.append("+1");
+        }
+        RainGrammar x = Check.on(sum + ";");
+        CHECK.due("1000 signs", sum.length() + 1, 1000);
+        CHECK.due("read at last", x.count(13), 0);
+        law("1 and 1=1+1*(1 and 2=1+1*(1 and 3=1+1*(1 and 4=1+1*(1 and 5=1+1*4))))", "101111");
+        law("0 or 9=1+2*(0 or 9=3+2*(1 and 5=2+1*(0 or 7=1+2*3)))", "000000");
+        law("0 or 3=1+2*(0 or 5=3+2*(1 and 3=2+1*(0 or 7=1+2*3)))", "101111");
+    }
+
     private static void counts() {
         RainGrammar x = on(w("a", "plain", "red", 3) + w("b", "plain", "blue", 4));
         Check.wish(x, "red");
@@ -192,6 +223,8 @@ public final class ReadingTest {
         laws();
         hours();
         nothingSaid();
+        elsewhere();
+        longLaws();
         counts();
         CHECK.end();
     }

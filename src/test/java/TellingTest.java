@@ -68,6 +68,13 @@ public final class TellingTest {
         CHECK.due("full", x.feed(-1, 0x2020202020202020L, 0), 1000);
         CHECK.due("the first ; stands at 993", x.square(), 1 + 16 * 993);
         CHECK.due("taken", x.count(13), 0);
+        CHECK.due("1000 tokens", Check.feed(x, ";".repeat(1001)), 1000);
+        CHECK.due("the first is wrong", x.square(), 1);
+        CHECK.due("1000 parts", Check.feed(x, "reads " + "1+".repeat(497)), 1000);
+        CHECK.due("the end is wrong", x.square(), 1 + 16 * 1000);
+        CHECK.due("a full tape", Check.feed(x, "sort b;" + " ".repeat(986) + "sort c;"), 1000);
+        CHECK.due("is read", x.square(), 0);
+        CHECK.due("whole", x.count(0), 2);
     }
 
     private static void tokens() {

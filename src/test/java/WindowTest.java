@@ -75,6 +75,14 @@ public final class WindowTest {
         y = Check.on("sort n;colour red as n;walker a plain red at 9 goes 0;"
             + "walker b bent red at 9 goes 0 1;walker c plain red at 9 goes 1 1 1 1 2;");
         CHECK.due("parted behind 5", y.ask(), 58);
+        y = Check.on("sort n;colour red as n;walker wa plain red at 4 goes 1 0 1 2;walker wb plain red at 2 goes 1 0 2 0 0;"
+            + "walker wc plain red at 1 goes 2 2 0 1 2 2;walker wd plain red at 0 goes 2 1 2 2 1;"
+            + "walker we plain red at 1 goes 0 1 2 0;walker wf plain red at 5 goes 2 1 2 1;");
+        int[] far = {8, 2, 1, 1, 1, 5};
+        for (int w = 0; w < far.length; w++) {
+            CHECK.due("behind 40, " + w, y.later(w, 40), far[w]);
+        }
+        CHECK.due("three of six behind 40, for the first time", y.ask(), 401);
     }
 
     private static void chances() {
