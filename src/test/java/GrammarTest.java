@@ -37,7 +37,7 @@ public final class GrammarTest {
         }
     }
 
-    /** Every pair of two sorts makes either: 8 rules, so 132 trees with 2^6 * 2^... labels. */
+    /** Every pair of two sorts makes either: all inner knots but the root are of either sort. */
     private static void manyWays() {
         StringBuilder b = new StringBuilder("sort a;sort b;colour ca as a;says a;");
         for (String made : new String[] {"a", "b"}) {
@@ -46,7 +46,7 @@ public final class GrammarTest {
             }
         }
         RainGrammar x = Check.on(b + walkers("aaaaaaa"));
-        CHECK.due("each inner knot but the root is of two sorts", x.ways(0), 132 * 32);
+        CHECK.due("132 trees, five inner knots below the root", x.ways(0), 132 * 32);
         CHECK.due("depth", x.depth(0), 3);
         CHECK.due("sorts", x.sorts(0, 0, 6), 3);
         CHECK.due("sorts of one", x.sorts(0, 6, 6), 1);
@@ -54,7 +54,7 @@ public final class GrammarTest {
 
     private static void sentences() {
         RainGrammar x = Check.on("sort n;sort v;sort s;colour ca as n;colour cb as v;rule s is n v;rule v is v n;says s;"
-            + walkers("ab.aba.b"  .substring(0, 7)));
+            + walkers("ab.aba."));
         CHECK.due("said", x.said(), 2);
         CHECK.due("ways 0", x.ways(0), 1);
         CHECK.due("ways 1", x.ways(1), 1);
@@ -118,6 +118,11 @@ public final class GrammarTest {
         x = Check.on("sort n;colour red as n;");
         Check.wish(x, "red");
         CHECK.due("without says", x.wished(), 0);
+        x = Check.on("sort a;sort b;sort c;sort d;sort e;sort f;colour ca as f;rule f is f f;" + walkers("aa"));
+        CHECK.due("without says, of the last sort", x.said(), 0);
+        CHECK.due("without says, ways", x.ways(0), 0);
+        CHECK.due("without says, sorts", x.sorts(0, 0, 1), 32);
+        CHECK.due("without says, tree", x.tree(0, 0), -1);
         x = Check.on("sort n;colour red as n;says n;");
         Check.wish(x, "red");
         CHECK.due("one colour", x.wished(), 1);

@@ -115,6 +115,10 @@ public final class HandTest {
         CHECK.due("without a day, at last", x.judged(2), 1);
         Check.day(x, "open a;");
         CHECK.due("behind a line that can't be it is said", x.judged(1), 0);
+        Check.day(x, "shut a;open a;open a;");
+        CHECK.due("shut and opened: the third line can't be", x.judged(0), 2);
+        CHECK.due("said behind the second line", x.judged(1), 1);
+        CHECK.due("said at last", x.judged(2), 1);
         for (int what : new int[] {-2, -1, 3, Integer.MAX_VALUE}) {
             CHECK.due("judged " + what, x.judged(what), -2);
         }
@@ -161,6 +165,26 @@ public final class HandTest {
         }
     }
 
+    private static void marksOfSights() {
+        RainGrammar x = Check.on(SQUARE);
+        x.mark(0, false);
+        x.see(8, 0, true);
+        Check.wish(x, "red");
+        Check.day(x, "shut a;open b;");
+        x.mark(1, false);
+        x.mark(0, true);
+        CHECK.due("nothing was seen", x.who(), 7);
+        x.see(1, 0, true);
+        Check.wish(x, "blue");
+        Check.day(x, "open a;tick;");
+        CHECK.due("b", x.who(), 2);
+        CHECK.due("b shows it", x.steps(0), 1);
+        x.mark(1, true);
+        CHECK.due("a again", x.who(), 1);
+        CHECK.due("a shows it", x.steps(0), 0);
+        CHECK.due("the day again", x.judged(0), 1);
+    }
+
     public static void main(String[] args) {
         ticks();
         moves();
@@ -168,6 +192,7 @@ public final class HandTest {
         sixteen();
         judged();
         marks();
+        marksOfSights();
         CHECK.end();
     }
 }

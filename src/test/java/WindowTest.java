@@ -70,6 +70,9 @@ public final class WindowTest {
         CHECK.due("still, as he stays then", x.who(), 1);
         x.tick();
         CHECK.due("behind one tick from now nobody is", x.who(), 0);
+        RainGrammar z = Check.on("sort n;colour red as n;walker a plain red at 0 goes 1;walker b plain red at 1 goes 1;");
+        z.see(0, 0, true);
+        CHECK.due("at the first place, now", z.who(), 1);
         RainGrammar y = Check.on("sort n;colour red as n;walker a plain red at 4 goes 1;walker b plain red at 4 goes 1;");
         CHECK.due("always together", y.ask(), -1);
         y = Check.on("sort n;colour red as n;walker a plain red at 9 goes 0;"
