@@ -817,6 +817,11 @@ public final class RainGrammar {
             law.clear();
         }
 
+        /** The sort that makes a sentence said: without says it is the first one told. */
+        int goalSort() {
+            return saysSort == NONE ? 0 : saysSort;
+        }
+
         int sortNamed(long name) {
             return placeOf(name, sortNames, sortCount);
         }
@@ -1622,7 +1627,7 @@ public final class RainGrammar {
         private int[] rows = new int[CELLS];
         private int[] shallower = new int[CELLS];
         private int length;
-        /** Where the whole row as what says tells lies; NONE if nothing tells it. */
+        /** Where the whole row as what says tells lies; NONE as long as there is no row. */
         private int goal = NONE;
 
         private static int cell(int from, int to) {
@@ -1631,7 +1636,7 @@ public final class RainGrammar {
 
         void fill(Square square, int[] colours, int begin, int count) {
             length = count;
-            goal = length < 1 || square.saysSort == NONE ? NONE : cell(0, length - 1) + square.saysSort;
+            goal = length < 1 ? NONE : cell(0, length - 1) + square.goalSort();
             for (int i = 0; i < length; i++) {
                 int at = cell(i, i);
                 Arrays.fill(ways, at, at + MOST_SORTS, 0);

@@ -115,20 +115,39 @@ public final class GrammarTest {
         CHECK.due("in no way", x.wished(), 0);
         Check.wish(x, "red blue");
         CHECK.due("in one", x.wished(), 1);
-        x = Check.on("sort n;colour red as n;");
-        Check.wish(x, "red");
-        CHECK.due("without says", x.wished(), 0);
-        x = Check.on("sort a;sort b;sort c;sort d;sort e;sort f;colour ca as f;rule f is f f;" + walkers("aa"));
-        CHECK.due("without says, of the last sort", x.said(), 0);
-        CHECK.due("without says, ways", x.ways(0), 0);
-        CHECK.due("without says, sorts", x.sorts(0, 0, 1), 32);
-        CHECK.due("without says, tree", x.tree(0, 0), -1);
         x = Check.on("sort n;colour red as n;says n;");
         Check.wish(x, "red");
         CHECK.due("one colour", x.wished(), 1);
     }
 
+    /** Without says it is the first sort told, whatever comes behind it. */
+    private static void withoutSays() {
+        RainGrammar x = Check.on("sort n;colour red as n;");
+        Check.wish(x, "red");
+        CHECK.due("without says, wished", x.wished(), 1);
+        x = Check.on("sort a;sort b;sort c;sort d;sort e;sort f;colour ca as f;rule f is f f;" + walkers("aa"));
+        CHECK.due("without says, of the last sort alone", x.said(), 0);
+        CHECK.due("without says, ways of another sort", x.ways(0), 0);
+        CHECK.due("without says, sorts", x.sorts(0, 0, 1), 32);
+        CHECK.due("without says, depth of another sort", x.depth(0), -1);
+        CHECK.due("without says, tree of another sort", x.tree(0, 0), -1);
+        x = Check.on("sort s;sort n;sort v;colour ca as n;colour cb as v;rule v is v n;rule s is n v;" + walkers("aba"));
+        CHECK.due("without says, said", x.said(), 1);
+        CHECK.due("without says, ways", x.ways(0), 1);
+        CHECK.due("without says, depth", x.depth(0), 2);
+        tree("without says", x, 0, 1, 0);
+        Check.wish(x, "ca cb");
+        CHECK.due("without says, a wish by a rule", x.wished(), 1);
+        Check.wish(x, "ca");
+        CHECK.due("without says, a wish of another sort", x.wished(), 0);
+        CHECK.due("a square with says", Check.square(x, "sort s;sort n;colour ca as n;says n;" + walkers("a")), 0);
+        CHECK.due("with says", x.said(), 1);
+        CHECK.due("a square without it", Check.square(x, "sort s;sort n;colour ca as n;" + walkers("a")), 0);
+        CHECK.due("says of the square ahead is gone", x.said(), 0);
+    }
+
     public static void main(String[] args) {
+        withoutSays();
         catalan();
         manyWays();
         sentences();

@@ -84,6 +84,10 @@ final class Model {
         List<Integer> gusts;
         Expr reads;
 
+        int goal() {
+            return says < 0 ? 0 : says;
+        }
+
         boolean told(String name) {
             return sorts.contains(name) || colours.contains(name) || walker(name) >= 0;
         }
@@ -603,7 +607,7 @@ final class Model {
     }
 
     private int said(State s, int gust) {
-        return (int) sentences(s, gust).stream().filter(x -> ways(x, sq.says) > 0).count();
+        return (int) sentences(s, gust).stream().filter(x -> ways(x, sq.goal()) > 0).count();
     }
 
     private int said(State s) {
@@ -717,7 +721,7 @@ final class Model {
     }
 
     int ways(int i) {
-        return hasSentence(i) ? ways(sentences().get(i), sq.says) : -1;
+        return hasSentence(i) ? ways(sentences().get(i), sq.goal()) : -1;
     }
 
     int sorts(int i, int from, int to) {
@@ -735,7 +739,7 @@ final class Model {
         if (!hasSentence(i) || ways(i) == 0) {
             return null;
         }
-        List<List<Integer>> all = trees(sentences().get(i), sq.says);
+        List<List<Integer>> all = trees(sentences().get(i), sq.goal());
         return Collections.min(all, (a, b) -> {
             for (int k = 0; k < a.size(); k++) {
                 int c = a.get(k) - b.get(k);
@@ -780,7 +784,7 @@ final class Model {
                 s.open[w] &= (set >> w & 1) == 0;
             }
             List<List<Integer>> all = sentences(s, gust(s.tick));
-            if (all.size() == 1 && ways(all.get(0), sq.says) == 1
+            if (all.size() == 1 && ways(all.get(0), sq.goal()) == 1
                 && (best < 0 || Integer.bitCount(set) < Integer.bitCount(best))) {
                 best = set;
             }
@@ -818,7 +822,7 @@ final class Model {
     }
 
     int wished() {
-        return told.wish.isEmpty() ? -1 : ways(told.wish, sq.says);
+        return told.wish.isEmpty() ? -1 : ways(told.wish, sq.goal());
     }
 
     private int fewest;

@@ -92,7 +92,7 @@ public final class ModelTest {
                 b.append(r);
             }
         }
-        if (below(8) > 0) {
+        if (below(4) > 0) {
             b.append("says s").append((char) ('a' + below(sorts))).append(";");
         }
         int walkers = random.nextInt(3) == 0 ? below(8) : 5 + below(3);

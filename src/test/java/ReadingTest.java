@@ -155,13 +155,48 @@ public final class ReadingTest {
         CHECK.due("hour 2", x.tick(), 0);
     }
 
+    /** Without says a sentence is said if it is of the first sort told. */
+    private static void withoutSays() {
+        RainGrammar x = Check.on("sort n;sort v;colour red as n;colour blue as v;"
+            + "walker a plain red at 1 goes 1 0;walker b plain blue at 2 goes 0;");
+        CHECK.due("without says, of no sort", x.said(), 0);
+        CHECK.due("a sentence though", x.count(6), 1);
+        CHECK.due("keys", x.keys(), 2);
+        CHECK.due("least", x.least(), 2);
+        CHECK.due("chance", x.chance(5), 50000);
+        CHECK.due("when", x.when(), 1);
+        CHECK.due("most", x.most(), 1);
+        CHECK.due("talk", x.talk(60), 2);
+        Check.day(x, "shut a;tick;open a;tick;");
+        CHECK.due("judged 1", x.judged(1), 2);
+        CHECK.due("judged 2", x.judged(2), 1);
+        CHECK.due("tick", x.tick(), 1);
+        CHECK.due("said", x.said(), 1);
+        CHECK.due("ways", x.ways(0), 1);
+        CHECK.due("depth", x.depth(0), 0);
+        CHECK.due("no rule in the tree", x.tree(0, 0), -1);
+        CHECK.due("sorts", x.sorts(0, 0, 0), 1);
+        CHECK.due("answer", x.answer(), 7);
+        x.shut(0);
+        x.move(0, 1);
+        CHECK.due("of the second sort", x.said(), 0);
+        CHECK.due("its ways", x.ways(0), 0);
+        CHECK.due("its depth", x.depth(0), -1);
+        CHECK.due("its sorts", x.sorts(0, 0, 0), 2);
+        x = Check.on("sort n;colour red as n;" + w("a", "plain", "red", 1));
+        CHECK.due("days", x.days(0, 1, 0), 1);
+    }
+
     private static void nothingSaid() {
-        RainGrammar x = Check.on("sort n;colour red as n;" + w("a", "plain", "red", 0));
-        CHECK.due("without says", x.said(), 0);
+        RainGrammar x = Check.on("sort n;sort v;colour red as n;says v;" + w("a", "plain", "red", 0));
+        CHECK.due("says another sort", x.said(), 0);
         CHECK.due("a sentence though", x.count(6), 1);
         CHECK.due("ways", x.ways(0), 0);
         CHECK.due("depth", x.depth(0), -1);
         CHECK.due("sorts", x.sorts(0, 0, 0), 1);
+        x = Check.on("");
+        CHECK.due("no sort at all", x.said(), 0);
+        CHECK.due("nor behind a tick", x.tick(), 0);
     }
 
     /** Calls that look elsewhere leave nothing behind in what is read now. */
@@ -222,6 +257,7 @@ public final class ReadingTest {
         gusts();
         laws();
         hours();
+        withoutSays();
         nothingSaid();
         elsewhere();
         longLaws();
