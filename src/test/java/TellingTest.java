@@ -3,35 +3,21 @@ public final class TellingTest {
     private static final Check CHECK = new Check("TellingTest");
     private static final String BASE = "sort n;sort v;colour red as n;colour blue as v;walker wa plain red at 1 goes 1;";
 
-    private static String times(String text, int n) {
-        StringBuilder b = new StringBuilder();
-        for (int i = 0; i < n; i++) {
-            b.append(text.replace('@', (char) ('a' + i)));
-        }
-        return b.toString();
-    }
-
-    /** The text with ^ ahead of the wrong token; without one there is no fault. */
-    private static int dueFault(String marked, int kind) {
-        int place = marked.indexOf('^');
-        return place < 0 ? 0 : kind + 16 * place;
-    }
-
     private static void square(String marked, int kind) {
         RainGrammar x = new RainGrammar();
-        CHECK.due("square " + marked, Check.square(x, marked.replace("^", "")), dueFault(marked, kind));
+        CHECK.due("square " + marked, Check.square(x, marked.replace("^", "")), Check.fault(marked, kind));
         CHECK.due("tape behind " + marked, x.count(13), 0);
     }
 
     private static void day(String marked, int kind) {
         RainGrammar x = Check.on(BASE);
-        CHECK.due("day " + marked, Check.day(x, marked.replace("^", "")), dueFault(marked, kind));
+        CHECK.due("day " + marked, Check.day(x, marked.replace("^", "")), Check.fault(marked, kind));
         CHECK.due("tape behind " + marked, x.count(13), 0);
     }
 
     private static void wish(String marked, int kind) {
         RainGrammar x = Check.on(BASE);
-        CHECK.due("wish " + marked, Check.wish(x, marked.replace("^", "")), dueFault(marked, kind));
+        CHECK.due("wish " + marked, Check.wish(x, marked.replace("^", "")), Check.fault(marked, kind));
         CHECK.due("tape behind " + marked, x.count(13), 0);
     }
 
@@ -182,28 +168,28 @@ public final class TellingTest {
     }
 
     private static void tooMany() {
-        square(times("sort x@;", 6), 0);
-        square(times("sort x@;", 6) + "^sort;", 5);
-        square("sort s;" + times("colour x@ as s;", 6), 0);
-        square("sort s;" + times("colour x@ as s;", 6) + "^colour;", 5);
+        square(Check.times("sort x@;", 6), 0);
+        square(Check.times("sort x@;", 6) + "^sort;", 5);
+        square("sort s;" + Check.times("colour x@ as s;", 6), 0);
+        square("sort s;" + Check.times("colour x@ as s;", 6) + "^colour;", 5);
         String sorts = "sort s;sort t;sort u;";
-        String rules = times("rule @ is s s;", 3).replace("rule a", "rule s").replace("rule b", "rule t")
+        String rules = Check.times("rule @ is s s;", 3).replace("rule a", "rule s").replace("rule b", "rule t")
             .replace("rule c", "rule u");
         String twelve = rules + rules.replace("s;", "t;") + rules.replace("s;", "u;") + rules.replace("is s", "is t");
         square(sorts + twelve, 0);
         square(sorts + twelve + "^rule s is s s;", 5);
         String s = "sort a;colour b as a;";
-        square(s + times("walker w@ plain b at 0 goes 0;", 7), 0);
-        square(s + times("walker w@ plain b at 0 goes 0;", 7) + "^walker wa;", 5);
-        day(times("tick;", 40), 0);
-        day(times("tick;", 40) + "^tick;", 5);
-        day(times("tick;", 40) + "^move x;", 5);
-        day(times("tick;", 40) + "^rest;", 1);
-        day(times("tick;", 40) + "^;", 1);
-        wish(times("red ", 7), 0);
-        wish(times("red ", 7) + "^red", 5);
-        wish(times("red ", 7) + "^pink", 2);
-        wish(times("red ", 7) + "^;", 1);
+        square(s + Check.times("walker w@ plain b at 0 goes 0;", 7), 0);
+        square(s + Check.times("walker w@ plain b at 0 goes 0;", 7) + "^walker wa;", 5);
+        day(Check.times("tick;", 40), 0);
+        day(Check.times("tick;", 40) + "^tick;", 5);
+        day(Check.times("tick;", 40) + "^move x;", 5);
+        day(Check.times("tick;", 40) + "^rest;", 1);
+        day(Check.times("tick;", 40) + "^;", 1);
+        wish(Check.times("red ", 7), 0);
+        wish(Check.times("red ", 7) + "^red", 5);
+        wish(Check.times("red ", 7) + "^pink", 2);
+        wish(Check.times("red ", 7) + "^;", 1);
     }
 
     private static void laws() {
