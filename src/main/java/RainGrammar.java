@@ -981,7 +981,7 @@ public final class RainGrammar {
     private static final class LawReader {
         private static final int DEEPEST = 5;
 
-        static boolean fill(Tape tape, Law law, int depth) {
+        private static boolean fill(Tape tape, Law law, int depth) {
             boolean good = addTest(tape, law, depth);
             for (int i = 0; good && i < Tape.ROOM && (tape.atWord("and") || tape.atWord("or")); i++) {
                 int joint = tape.atWord("and") ? Law.AND : Law.OR;

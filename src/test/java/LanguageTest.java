@@ -14,6 +14,7 @@ public final class LanguageTest {
         "\\bfloat\\b", "\\bSystem\\.(?!arraycopy)", "\\bThread\\b", "\\bRandom\\b", "hashCode|toString|getMessage",
         "\\bString\\[\\]", "\\bstatic \\{", "[^\\x00-\\x7f]", "\\bprotected\\b", "\\bint\\[\\]\\[\\]", "\\bvar\\b"};
     private static final Pattern METHOD = Pattern.compile("^ +(?:[a-zA-Z]+ )*[a-zA-Z\\[\\]]+\\(([^()]*)\\)[^;=]*\\{$");
+    private static final String LIBRARY = "(Integer\\.bitCount|Math\\.(min|max|abs)|Arrays\\.fill|System\\.arraycopy)";
     private static final int LONGEST = 60;
     private static final int MOST_PARAMETERS = 7;
     private static final int MOST_CLASSES = 12;
@@ -35,6 +36,26 @@ public final class LanguageTest {
         while (thrown.find()) {
             CHECK.due(thrown.group(), thrown.group(1).startsWith("new NoSuchElementException(\""), true);
         }
+    }
+
+    private static void library(String text) {
+        Matcher m = Pattern.compile("\\b(Integer|Long|Math|Arrays|System|String|List|ArrayList)\\.(\\w+)").matcher(text);
+        while (m.find()) {
+            CHECK.due("of the library: " + m.group(), m.group().matches(LIBRARY), true);
+        }
+        Matcher joined = Pattern.compile("\" \\+|\\+ \"").matcher(text);
+        CHECK.due("texts are joined by +", joined.find(), false);
+    }
+
+    /** Who calls himself by others carries how deep he is, and is private. */
+    private static void recursion(String text) {
+        Matcher m = Pattern.compile("\n *([a-z ]+)\\w+\\([^)]*\\bint depth\\)").matcher(text);
+        int count = 0;
+        while (m.find()) {
+            count++;
+            CHECK.due("private: " + m.group().trim(), m.group(1).startsWith("private static"), true);
+        }
+        CHECK.due("five of them", count, 5);
     }
 
     private static void lengths(String[] lines) {
@@ -80,6 +101,8 @@ public final class LanguageTest {
         String source = System.getProperty("source", "src/main/java/RainGrammar.java");
         String text = Files.readString(Path.of(source));
         words(text);
+        library(text.replaceFirst("import java.util.Arrays;", ""));
+        recursion(text);
         lengths(text.split("\n"));
         classes();
         CHECK.end();
